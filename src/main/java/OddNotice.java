@@ -302,24 +302,25 @@ public final class OddNotice {
         for (int at = 0; at < text.length; at++) {
             // A part has one letter, its first sign; the digits behind it belong to its deed.
             if (text.isLetter(at)) {
-                if (!doDeed(text.codeAt(at), at + 1)) {
+                if (!now.isPossible(text.codeAt(at), text.digitAt(at + 1))) {
                     return deeds;
                 }
+                doDeed(text.codeAt(at), at + 1);
                 deeds++;
             }
         }
         return deeds;
     }
 
-    private boolean doDeed(int letter, int at) {
-        int who = text.digitAt(at);
+    private void doDeed(int letter, int at) {
+        int which = text.digitAt(at);
         switch (letter) {
-            case 'c': return now.tryCome(who);
-            case 'd': return now.tryDone(who);
-            case 'w': return now.tryWrite(who, 10 * text.digitAt(at + 1) + text.digitAt(at + 2));
-            case 'b': return now.tryBegin(who);
-            case 'l': return now.tryLook(who);
-            default: return false;
+            case 'c': now.board.enter(which); break;
+            case 'd': now.board.leave(which); break;
+            case 'w': now.board.write(which, text.valueAt(at + 1)); break;
+            case 'b': now.readers[which].open(now.board); break;
+            case 'l': now.glance(which); break;
+            default: break;
         }
     }
 
@@ -513,15 +514,14 @@ public final class OddNotice {
         int latestSame(int[] values) {
             int latest = latestWhole();
             for (int back = 0; back < KEPT_NOTICES && back <= latest; back++) {
-                if (isSame(latest - back, values)) {
+                if (isSame(keptAt(latest - back), values)) {
                     return latest - back;
                 }
             }
             return NONE;
         }
 
-        private boolean isSame(int notice, int[] values) {
-            int at = keptAt(notice);
+        private boolean isSame(int at, int[] values) {
             for (int field = 0; field < FIELDS; field++) {
                 if (kept[at + field] != values[field]) {
                     return false;
@@ -666,44 +666,16 @@ public final class OddNotice {
             return one.wouldFail(board) ? 0 : 1;
         }
 
-        boolean tryCome(int clerk) {
-            boolean possible = board.isAway(clerk);
-            if (possible) {
-                board.enter(clerk);
+        /** Whether the deed with this letter can be done by or to the one with this number. */
+        boolean isPossible(int letter, int which) {
+            switch (letter) {
+                case 'c': return board.isAway(which);
+                case 'd': return board.isChalking(which);
+                case 'w': return board.isOdd();
+                case 'b': return mayBegin(which);
+                case 'l': return readers[which].reads;
+                default: return false;
             }
-            return possible;
-        }
-
-        boolean tryDone(int clerk) {
-            boolean possible = board.isChalking(clerk);
-            if (possible) {
-                board.leave(clerk);
-            }
-            return possible;
-        }
-
-        boolean tryWrite(int field, int value) {
-            boolean possible = board.isOdd();
-            if (possible) {
-                board.write(field, value);
-            }
-            return possible;
-        }
-
-        boolean tryBegin(int reader) {
-            boolean possible = mayBegin(reader);
-            if (possible) {
-                readers[reader].open(board);
-            }
-            return possible;
-        }
-
-        boolean tryLook(int reader) {
-            boolean possible = readers[reader].reads;
-            if (possible) {
-                glance(reader);
-            }
-            return possible;
         }
 
         int reading() {
@@ -789,6 +761,10 @@ public final class OddNotice {
         int digitAt(int at) {
             int digit = codeAt(at) - '0';
             return isBelow(digit, 10) ? digit : 0;
+        }
+
+        int valueAt(int at) {
+            return 10 * digitAt(at) + digitAt(at + 1);
         }
 
         private int expectedBehind(int code) {

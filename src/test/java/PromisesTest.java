@@ -234,6 +234,7 @@ public final class PromisesTest {
         throwsIndex("6: begin(4)", () -> x.begin(4));
         throwsIndex("6: begin(-1)", () -> x.begin(-1));
         due("6: even", x.begin(0), 1);
+        due("6: saved", x.count(8), 1);
         throwsState("6: reads already", () -> x.begin(0));
         x.come(0);
         for (int i = 1; i <= 5; i++) {
@@ -407,11 +408,15 @@ public final class PromisesTest {
 
     private static void promise13UndoRestoresAll() {
         OddNotice x = new OddNotice();
-        x.come(0);
-        x.come(1);
+        for (int i = 1; i <= 14; i++) {
+            post(x, i);
+        }
+        x.reader(1, false);
+        play(x, "b0l0l0l0l0l0l0b1l1c1w033w466l1l1l1l1l1");
+        due("13: a half before", x.count(6), 1);
+        play(x, "c0b3w477b0");
         x.reader(2, false);
         x.begin(2);
-        x.begin(0);
         looks(x, 2, 3);
         long[] hashes = new long[6];
         for (int i = 0; i < 6; i++) {
@@ -419,9 +424,9 @@ public final class PromisesTest {
             switch (i) {
                 case 0: x.chalk(4, 44); break;
                 case 1: x.look(2); break;
-                case 2: x.done(0); break;
-                case 3: play(x, "l2l2w198d1b0l0l0l0l0l0l0"); break;
-                case 4: x.reader(0, false); break;
+                case 2: x.done(1); break;
+                case 3: play(x, "l2l2d0b0l0c1w055l0l0l0l0l0b1l1w056l1l1l1l1l1b2l2l2d1"); break;
+                case 4: x.reader(2, true); x.undo(); play(x, "c0w099d0c0w044d0b0l0l0l0l0l0l0b3b2l2l2l2l2l2l2b2"); break;
                 default: x.set(20); break;
             }
         }
@@ -430,6 +435,9 @@ public final class PromisesTest {
             dueBits("13: state " + i, digestWithoutSaved(x), hashes[i]);
         }
         due("13: reader goes on", x.look(2), 0);
+        due("13: with the value of the board", x.look(2), 77);
+        due("13: to the end", x.look(2), 101);
+        due("13: with what was taken before", x.has(2, 0), 33);
     }
 
     /** The saved states are not part of what undo restores, but are in the digest: so all looks. */
@@ -454,7 +462,9 @@ public final class PromisesTest {
             hash = 31 * hash + x.field(field);
             for (int i = 0; i < 4; i++) {
                 hash = 31 * hash + x.has(i, field);
-                hash = 31 * hash + x.notice(i, field);
+            }
+            for (int notice = 0; notice < 30; notice++) {
+                hash = 31 * hash + x.notice(notice, field);
             }
         }
         return hash;
@@ -599,6 +609,12 @@ public final class PromisesTest {
         dueCounts(x, 3, 0, 1, 1, 2, 2, 1, 5, 5);
         x.reader(1, true);
         dueCounts(x, 3, 0, 1, 1, 2, 2, 1, 5, 6);
+        OddNotice y = new OddNotice();
+        for (int reader = 0; reader < 4; reader++) {
+            due("19: readers who read", y.count(3), reader);
+            y.begin(reader);
+        }
+        due("19: all read", y.count(3), 4);
     }
 
     private static void promise20IfRead() {
@@ -631,6 +647,7 @@ public final class PromisesTest {
         x.reader(0, false);
         x.begin(1);
         due("21: away, even", x.wouldBeHalf(0), 0);
+        due("21: reads, even", x.wouldBeHalf(1), 0);
         x.come(0);
         due("21: nothing chalked", x.wouldBeHalf(0), 0);
         x.chalk(0, 9);
@@ -638,6 +655,9 @@ public final class PromisesTest {
         due("21: would fail at the end", x.wouldBeHalf(1), 0);
         due("21: would fail at the start", x.wouldBeHalf(2), 0);
         x.begin(0);
+        x.chalk(0, 0);
+        due("21: reads, and would take all 0", x.wouldBeHalf(0), 0);
+        x.chalk(0, 9);
         looks(x, 0, 1);
         x.chalk(0, 8);
         x.done(0);
@@ -645,6 +665,19 @@ public final class PromisesTest {
         due("21: another one", x.wouldBeHalf(2), 0);
         post(x, 9);
         due("21: whole by now", x.wouldBeHalf(0), 0);
+        x.look(0);
+        x.come(0);
+        x.chalk(2, 6);
+        looks(x, 0, 3);
+        x.chalk(2, 0);
+        due("21: at the last look", x.wouldBeHalf(0), 1);
+        due("21: the last look", x.look(0), 101);
+        due("21: was half", x.count(6), 1);
+        due("21: what was taken before is gone", x.wouldBeHalf(0), 0);
+        x.begin(0);
+        looks(x, 0, 2);
+        due("21: also in the next try", x.wouldBeHalf(0), 0);
+        x.done(0);
         x.set(1);
         x.come(0);
         x.chalk(1, 1);
