@@ -82,49 +82,49 @@ public final class PromisesTest {
         }
     }
 
-    private static void append(OddNotice x, String text) {
+    private static void append(Watched x, String text) {
         for (int i = 0; i < text.length(); i++) {
             x.append(text.charAt(i));
         }
     }
 
-    private static int play(OddNotice x, String text) {
+    private static int play(Watched x, String text) {
         append(x, text);
         return x.play();
     }
 
     private static int firstError(String text) {
-        OddNotice x = new OddNotice();
+        Watched x = new Watched();
         append(x, text);
         return x.firstError();
     }
 
-    private static void looks(OddNotice x, int reader, int times) {
+    private static void looks(Watched x, int reader, int times) {
         for (int i = 0; i < times; i++) {
             x.look(reader);
         }
     }
 
     /** Makes one more notice, with this value in field 0. */
-    private static void post(OddNotice x, int value) {
+    private static void post(Watched x, int value) {
         x.come(0);
         x.chalk(0, value);
         x.done(0);
     }
 
-    private static void dueNotice(OddNotice x, int notice, int... values) {
+    private static void dueNotice(Watched x, int notice, int... values) {
         for (int field = 0; field < 5; field++) {
             due("notice(" + notice + ", " + field + ")", x.notice(notice, field), values[field]);
         }
     }
 
-    private static void dueReader(OddNotice x, int reader, int... values) {
+    private static void dueReader(Watched x, int reader, int... values) {
         for (int what = 0; what < 8; what++) {
             due("readerOf(" + reader + ", " + what + ")", x.readerOf(reader, what), values[what]);
         }
     }
 
-    private static void dueCounts(OddNotice x, int... values) {
+    private static void dueCounts(Watched x, int... values) {
         for (int what = 0; what < 9; what++) {
             due("count(" + what + ")", x.count(what), values[what]);
         }
@@ -133,7 +133,7 @@ public final class PromisesTest {
     // ---- the promises
 
     private static void promise1ANewObject() {
-        OddNotice x = new OddNotice();
+        Watched x = new Watched();
         dueCounts(x, 0, -1, 0, 0, 0, 0, 0, 5, 0);
         dueNotice(x, 0, 0, 0, 0, 0, 0);
         due("1: notice(1, 0)", x.notice(1, 0), -1);
@@ -149,7 +149,7 @@ public final class PromisesTest {
     }
 
     private static void promise2Come() {
-        OddNotice x = new OddNotice();
+        Watched x = new Watched();
         throwsIndex("2: come(-1)", () -> x.come(-1));
         throwsIndex("2: come(3)", () -> x.come(3));
         throwsIndex("2: come(MIN)", () -> x.come(Integer.MIN_VALUE));
@@ -166,7 +166,7 @@ public final class PromisesTest {
     }
 
     private static void promise3Chalk() {
-        OddNotice x = new OddNotice();
+        Watched x = new Watched();
         throwsState("3: chalk without a clerk", () -> x.chalk(0, 0));
         throwsIndex("3: all three", () -> x.chalk(5, 100));
         throwsArgument("3: value before state", () -> x.chalk(4, 100));
@@ -185,7 +185,7 @@ public final class PromisesTest {
     }
 
     private static void promise4Done() {
-        OddNotice x = new OddNotice();
+        Watched x = new Watched();
         throwsIndex("4: done(3)", () -> x.done(3));
         throwsIndex("4: done(-1)", () -> x.done(-1));
         throwsState("4: done while away", () -> x.done(0));
@@ -210,7 +210,7 @@ public final class PromisesTest {
     }
 
     private static void promise5Reader() {
-        OddNotice x = new OddNotice();
+        Watched x = new Watched();
         throwsIndex("5: reader(4)", () -> x.reader(4, true));
         throwsIndex("5: reader(-1)", () -> x.reader(-1, false));
         x.begin(3);
@@ -230,7 +230,7 @@ public final class PromisesTest {
     }
 
     private static void promise6Begin() {
-        OddNotice x = new OddNotice();
+        Watched x = new Watched();
         throwsIndex("6: begin(4)", () -> x.begin(4));
         throwsIndex("6: begin(-1)", () -> x.begin(-1));
         due("6: even", x.begin(0), 1);
@@ -250,7 +250,7 @@ public final class PromisesTest {
     }
 
     private static void promise7Look() {
-        OddNotice x = new OddNotice();
+        Watched x = new Watched();
         throwsIndex("7: look(4)", () -> x.look(4));
         throwsIndex("7: look(-1)", () -> x.look(-1));
         throwsState("7: away", () -> x.look(0));
@@ -288,7 +288,7 @@ public final class PromisesTest {
     }
 
     private static void promise8Set() {
-        OddNotice x = new OddNotice();
+        Watched x = new Watched();
         throwsArgument("8: set(0)", () -> x.set(0));
         throwsArgument("8: set(21)", () -> x.set(21));
         throwsArgument("8: set(MIN)", () -> x.set(Integer.MIN_VALUE));
@@ -308,7 +308,7 @@ public final class PromisesTest {
     }
 
     private static void promise9Append() {
-        OddNotice x = new OddNotice();
+        Watched x = new Watched();
         throwsArgument("9: append(32)", () -> x.append(32));
         throwsArgument("9: append(127)", () -> x.append(127));
         throwsArgument("9: append(-1)", () -> x.append(-1));
@@ -324,7 +324,7 @@ public final class PromisesTest {
     }
 
     private static void promise10ClearBuffer() {
-        OddNotice x = new OddNotice();
+        Watched x = new Watched();
         append(x, "zz");
         due("10: clearBuffer", x.clearBuffer(), 2);
         due("10: empty", x.clearBuffer(), 0);
@@ -351,7 +351,7 @@ public final class PromisesTest {
     }
 
     private static void promise12Play() {
-        OddNotice x = new OddNotice();
+        Watched x = new Watched();
         throwsArgument("12: empty", () -> x.play());
         String[] incomplete = {"c", "w", "w0", "w00", "b", "l", "d", "c0d", "c0x", "c0c3", "x"};
         for (String text : incomplete) {
@@ -372,7 +372,7 @@ public final class PromisesTest {
     }
 
     private static void promise12PlayUpToAnImpossibleDeed() {
-        OddNotice x = new OddNotice();
+        Watched x = new Watched();
         due("12: w alone", play(x, "w011c0"), 0);
         due("12: undoable though nothing done", x.count(8), 1);
         due("12: buffer", x.clearBuffer(), 0);
@@ -387,7 +387,7 @@ public final class PromisesTest {
     }
 
     private static void promise13Undo() {
-        OddNotice x = new OddNotice();
+        Watched x = new Watched();
         throwsState("13: none", () -> x.undo());
         for (int i = 1; i <= 8; i++) {
             x.set(i);
@@ -407,7 +407,26 @@ public final class PromisesTest {
     }
 
     private static void promise13UndoRestoresAll() {
-        OddNotice x = new OddNotice();
+        for (int steps = 0; steps <= 6; steps++) {
+            Watched x = afterSteps(6);
+            for (int left = 5; left >= steps; left--) {
+                due("13: undo", x.undo(), left);
+            }
+            dueBits("13: state " + steps, hashWithoutSaved(x), hashWithoutSaved(afterSteps(steps)));
+        }
+        Watched x = afterSteps(6);
+        for (int i = 0; i < 6; i++) {
+            x.undo();
+        }
+        due("13: reader goes on", x.look(2), 0);
+        due("13: with the value of the board", x.look(2), 77);
+        due("13: to the end", x.look(2), 101);
+        due("13: with what was taken before", x.has(2, 0), 33);
+    }
+
+    /** A state with something of everything, and so many steps from there. */
+    private static Watched afterSteps(int steps) {
+        Watched x = new Watched();
         for (int i = 1; i <= 14; i++) {
             post(x, i);
         }
@@ -418,9 +437,7 @@ public final class PromisesTest {
         x.reader(2, false);
         x.begin(2);
         looks(x, 2, 3);
-        long[] hashes = new long[6];
-        for (int i = 0; i < 6; i++) {
-            hashes[i] = digestWithoutSaved(x);
+        for (int i = 0; i < steps; i++) {
             switch (i) {
                 case 0: x.chalk(4, 44); break;
                 case 1: x.look(2); break;
@@ -430,18 +447,11 @@ public final class PromisesTest {
                 default: x.set(20); break;
             }
         }
-        for (int i = 5; i >= 0; i--) {
-            due("13: undo", x.undo(), i);
-            dueBits("13: state " + i, digestWithoutSaved(x), hashes[i]);
-        }
-        due("13: reader goes on", x.look(2), 0);
-        due("13: with the value of the board", x.look(2), 77);
-        due("13: to the end", x.look(2), 101);
-        due("13: with what was taken before", x.has(2, 0), 33);
+        return x;
     }
 
-    /** The saved states are not part of what undo restores, but are in the digest: so all looks. */
-    private static long digestWithoutSaved(OddNotice x) {
+    /** The saved states are not part of what undo restores, but are in the digest: so all other looks. */
+    private static long hashWithoutSaved(Watched x) {
         long hash = 0;
         for (int what = 0; what < 8; what++) {
             hash = 31 * hash + x.count(what);
@@ -463,7 +473,7 @@ public final class PromisesTest {
             for (int i = 0; i < 4; i++) {
                 hash = 31 * hash + x.has(i, field);
             }
-            for (int notice = 0; notice < 30; notice++) {
+            for (int notice = 0; notice < 25; notice++) {
                 hash = 31 * hash + x.notice(notice, field);
             }
         }
@@ -471,7 +481,7 @@ public final class PromisesTest {
     }
 
     private static void promise14Field() {
-        OddNotice x = new OddNotice();
+        Watched x = new Watched();
         throwsIndex("14: field(-1)", () -> x.field(-1));
         throwsIndex("14: field(5)", () -> x.field(5));
         play(x, "c0w011w122w233w344w455");
@@ -482,7 +492,7 @@ public final class PromisesTest {
     }
 
     private static void promise15Notice() {
-        OddNotice x = new OddNotice();
+        Watched x = new Watched();
         throwsIndex("15: field 5", () -> x.notice(0, 5));
         throwsIndex("15: field -1", () -> x.notice(0, -1));
         throwsIndex("15: both", () -> x.notice(-1, 5));
@@ -507,7 +517,7 @@ public final class PromisesTest {
     }
 
     private static void promise16Clerk() {
-        OddNotice x = new OddNotice();
+        Watched x = new Watched();
         throwsIndex("16: clerk 3", () -> x.clerk(3, 0));
         throwsIndex("16: both", () -> x.clerk(-1, 3));
         throwsArgument("16: what 3", () -> x.clerk(0, 3));
@@ -524,7 +534,7 @@ public final class PromisesTest {
         due("16: behind", x.clerk(2, 1), 1);
     }
 
-    private static void dueClerks(OddNotice x, int[][] want) {
+    private static void dueClerks(Watched x, int[][] want) {
         for (int clerk = 0; clerk < 3; clerk++) {
             for (int what = 0; what < 3; what++) {
                 due("16: clerk(" + clerk + ", " + what + ")", x.clerk(clerk, what), want[clerk][what]);
@@ -533,7 +543,7 @@ public final class PromisesTest {
     }
 
     private static void promise17ReaderOf() {
-        OddNotice x = new OddNotice();
+        Watched x = new Watched();
         throwsIndex("17: reader 4", () -> x.readerOf(4, 0));
         throwsIndex("17: both", () -> x.readerOf(-1, 8));
         throwsArgument("17: what 8", () -> x.readerOf(0, 8));
@@ -561,7 +571,7 @@ public final class PromisesTest {
     }
 
     private static void promise17GivenUp() {
-        OddNotice x = new OddNotice();
+        Watched x = new Watched();
         x.set(2);
         x.come(0);
         x.begin(0);
@@ -576,7 +586,7 @@ public final class PromisesTest {
     }
 
     private static void promise18Has() {
-        OddNotice x = new OddNotice();
+        Watched x = new Watched();
         throwsIndex("18: reader 4", () -> x.has(4, 0));
         throwsIndex("18: reader -1", () -> x.has(-1, 0));
         throwsIndex("18: field 5", () -> x.has(0, 5));
@@ -593,7 +603,7 @@ public final class PromisesTest {
     }
 
     private static void promise19Count() {
-        OddNotice x = new OddNotice();
+        Watched x = new Watched();
         throwsArgument("19: count(9)", () -> x.count(9));
         throwsArgument("19: count(-1)", () -> x.count(-1));
         x.reader(1, false);
@@ -609,7 +619,7 @@ public final class PromisesTest {
         dueCounts(x, 3, 0, 1, 1, 2, 2, 1, 5, 5);
         x.reader(1, true);
         dueCounts(x, 3, 0, 1, 1, 2, 2, 1, 5, 6);
-        OddNotice y = new OddNotice();
+        Watched y = new Watched();
         for (int reader = 0; reader < 4; reader++) {
             due("19: readers who read", y.count(3), reader);
             y.begin(reader);
@@ -618,7 +628,7 @@ public final class PromisesTest {
     }
 
     private static void promise20IfRead() {
-        OddNotice x = new OddNotice();
+        Watched x = new Watched();
         throwsIndex("20: ifRead(4)", () -> x.ifRead(4));
         throwsIndex("20: ifRead(-1)", () -> x.ifRead(-1));
         due("20: away, even", x.ifRead(0), 1);
@@ -641,7 +651,7 @@ public final class PromisesTest {
     }
 
     private static void promise21WouldBeHalf() {
-        OddNotice x = new OddNotice();
+        Watched x = new Watched();
         throwsIndex("21: wouldBeHalf(4)", () -> x.wouldBeHalf(4));
         throwsIndex("21: wouldBeHalf(-1)", () -> x.wouldBeHalf(-1));
         x.reader(0, false);
@@ -686,7 +696,7 @@ public final class PromisesTest {
     }
 
     private static void promise22Busy() {
-        OddNotice x = new OddNotice();
+        Watched x = new Watched();
         due("22: even", x.busy(), 0);
         x.come(1);
         due("22: one", x.busy(), 1);
@@ -701,7 +711,7 @@ public final class PromisesTest {
     }
 
     private static void promise23WellShare() {
-        OddNotice x = new OddNotice();
+        Watched x = new Watched();
         due("23: without any", x.wellShare(), 1.0);
         x.come(0);
         x.begin(0);
@@ -717,25 +727,38 @@ public final class PromisesTest {
     }
 
     private static void promise24Digest() {
-        OddNotice x = new OddNotice();
-        dueDigest(x, "");
-        play(x, "c0w011w199d0b0l0l0l0l0l0l0c1b1b1");
-        dueDigest(x, "");
-        x.reader(2, false);
+        dueDigest(new Watched(), "");
+        dueDigest(withTries(), "");
+        Watched x = withTries();
         append(x, "b2!~");
         dueDigest(x, "b2!~");
-        dueDigest(x, "b2!~");
         x.clearBuffer();
-        for (int i = 0; i < 7; i++) {
-            play(x, "b2l2l2w107l2l2l2l2d1c1d1c1d1c1");
-            dueDigest(x, "");
-        }
-        x.done(1);
-        play(x, "b0l0l0l0l0l0l0b3l3l3l3l3l3l3");
         dueDigest(x, "");
+        for (int rounds = 1; rounds <= 7; rounds++) {
+            dueDigest(withRounds(rounds), "");
+        }
+        Watched y = withRounds(7);
+        y.done(1);
+        play(y, "b0l0l0l0l0l0l0b3l3l3l3l3l3l3");
+        dueDigest(y, "");
     }
 
-    private static void dueDigest(OddNotice x, String buffer) {
+    private static Watched withTries() {
+        Watched x = new Watched();
+        play(x, "c0w011w199d0b0l0l0l0l0l0l0c1b1b1");
+        return x;
+    }
+
+    private static Watched withRounds(int rounds) {
+        Watched x = withTries();
+        x.reader(2, false);
+        for (int i = 0; i < rounds; i++) {
+            play(x, "b2l2l2w107l2l2l2l2d1c1d1c1d1c1");
+        }
+        return x;
+    }
+
+    private static void dueDigest(Watched x, String buffer) {
         long hash = 3359;
         for (int what = 0; what < 9; what++) {
             hash = 31 * hash + x.count(what);
@@ -758,8 +781,9 @@ public final class PromisesTest {
             hash = 31 * hash + x.ifRead(reader);
             hash = 31 * hash + x.wouldBeHalf(reader);
         }
-        for (int notice = 0; notice <= x.count(0) / 2; notice++) {
-            for (int field = 0; field < 5 && x.notice(notice, 0) != -1; field++) {
+        int latest = x.count(0) / 2;
+        for (int notice = Math.max(0, latest - 15); notice <= latest; notice++) {
+            for (int field = 0; field < 5; field++) {
                 hash = 31 * hash + x.notice(notice, field);
             }
         }
@@ -773,7 +797,7 @@ public final class PromisesTest {
     }
 
     private static void throwingChangesNothing() {
-        OddNotice x = new OddNotice();
+        Watched x = new Watched();
         play(x, "c0c1b0");
         append(x, "c0w");
         long before = x.digest();
